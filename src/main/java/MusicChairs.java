@@ -461,14 +461,28 @@ public final class MusicChairs {
         return number >= 0 && number < ruleCount ? rules[number] : null;
     }
 
-    /** The bytes that were fed, with a head that reads along them and keeps the first fault. */
+    /** The bytes that were fed, with a head that reads sign by sign along them and keeps the fault. */
     private static final class Tape {
         private static final int BLANK = 32;
         private static final int MOST_DIGITS = 5;
+        private static final int WORDS = 18;
+        // signs that are no part of a rule's code; those that are have the numbers that Rule gives them
+        private static final int END = 1;
+        private static final int BAD = 2;
+        private static final int NUMBER = 3;
+        private static final int LONG_NUMBER = 4;
+        private static final int PARTY = 5;
+        private static final int CHAIR = 6;
+        private static final int GUEST = 7;
+        private static final int NEXT = 8;
+        private static final int CLOSE = 9;
 
         private final int[] bytes = new int[MOST_BYTES];
         private int size = 0;
         private int at = 0;
+        private int start = 0;
+        private int sign = END;
+        private int value = 0;
         private int fault = 0;
 
         private void append(int four) {
@@ -480,82 +494,139 @@ public final class MusicChairs {
 
         private void rewind() {
             at = 0;
+            start = 0;
             fault = 0;
         }
 
-        private int fail(int place, int sort) {
-            if (fault == 0) {
-                fault = 1 + 8 * place + sort;
-            }
-            return NONE;
+        /** Keeps a fault at the sign that was read last. */
+        private boolean fail(int sort) {
+            fault = 1 + 8 * start + sort;
+            return false;
         }
 
-        private void skipBlanks() {
+        private void readSign() {
             while (at < size && bytes[at] == BLANK) {
                 at++;
             }
+            start = at;
+            if (at >= size) {
+                sign = END;
+            } else if (isLetter(bytes[at])) {
+                readWord();
+            } else if (isDigit(bytes[at])) {
+                readNumber();
+            } else {
+                readMark();
+            }
         }
 
-        private boolean isAtEnd() {
-            return at >= size;
+        private static boolean isLetter(int one) {
+            return one >= 'a' && one <= 'z';
         }
 
-        private int peek() {
-            return at >= 0 && at < size ? bytes[at] : NONE;
+        private static boolean isDigit(int one) {
+            return one >= '0' && one <= '9';
         }
 
-        private boolean takeSign(char sign) {
-            if (peek() != sign) {
+        private void readWord() {
+            while (at < size && isLetter(bytes[at])) {
+                at++;
+            }
+            sign = BAD;
+            for (int k = 0; k < WORDS && sign == BAD; k++) {
+                if (spells(wordOf(k))) {
+                    sign = signOf(k);
+                }
+            }
+        }
+
+        private boolean spells(String word) {
+            if (at - start != word.length()) {
                 return false;
             }
-            at++;
-            return true;
-        }
-
-        private boolean isWord(String word) {
-            int stop = at + word.length();
-            if (stop > size) {
-                return false;
-            }
-            for (int k = 0; k < word.length(); k++) {
-                if (bytes[at + k] != word.charAt(k)) {
+            for (int k = 0; k < word.length() && start + k < size; k++) {
+                if (bytes[start + k] != word.charAt(k)) {
                     return false;
                 }
             }
-            return stop == size || bytes[stop] < 'a' || bytes[stop] > 'z';
-        }
-
-        private boolean takeWord(String word) {
-            if (!isWord(word)) {
-                return false;
-            }
-            at += word.length();
             return true;
         }
 
-        private boolean isDigit() {
-            int sign = peek();
-            return sign >= '0' && sign <= '9';
+        /** The words for values come first, as Rule counts them. */
+        private static String wordOf(int number) {
+            switch (number) {
+                case 0: return "places";
+                case 1: return "round";
+                case 2: return "guests";
+                case 3: return "chairs";
+                case 4: return "last";
+                case 5: return "beats";
+                case 6: return "fast";
+                case 7: return "slow";
+                case 8: return "near";
+                case 9: return "tired";
+                case 10: return "play";
+                case 11: return "if";
+                case 12: return "or";
+                case 13: return "and";
+                case 14: return "not";
+                case 15: return "party";
+                case 16: return "chair";
+                default: return "guest";
+            }
         }
 
-        /** The number that begins here, if it is from low to high; else NONE, and the fault is kept. */
-        private int takeNumber(int low, int high) {
-            int start = at;
-            int value = 0;
-            while (at < size && isDigit()) {
+        private static int signOf(int word) {
+            switch (word) {
+                case 10: return Rule.PLAY;
+                case 11: return Rule.IF;
+                case 12: return Rule.OR;
+                case 13: return Rule.AND;
+                case 14: return Rule.NOT;
+                case 15: return PARTY;
+                case 16: return CHAIR;
+                case 17: return GUEST;
+                default: return -1 - word;
+            }
+        }
+
+        private void readNumber() {
+            value = 0;
+            while (at < size && isDigit(bytes[at])) {
                 // more digits are a fault whatever they are, so they need not be added up
                 if (at - start < MOST_DIGITS) {
                     value = value * 10 + bytes[at] - '0';
                 }
                 at++;
             }
-            if (at == start) {
-                return fail(start, 0);
+            sign = at - start > MOST_DIGITS ? LONG_NUMBER : NUMBER;
+        }
+
+        private void readMark() {
+            int mark = bytes[start];
+            at++;
+            sign = markOf(mark);
+            if ((mark == '<' || mark == '>') && at < size && bytes[at] == '=') {
+                at++;
+                sign = mark == '<' ? Rule.AT_MOST : Rule.AT_LEAST;
             }
-            if (at - start > MOST_DIGITS || value < low || value > high) {
-                return fail(start, 1);
+        }
+
+        private static int markOf(int mark) {
+            switch (mark) {
+                case ';': return NEXT;
+                case '[': return Rule.OPEN;
+                case ']': return CLOSE;
+                case '+': return Rule.ADD;
+                case '-': return Rule.LESSEN;
+                case '*': return Rule.TIMES;
+                case '/': return Rule.DIVIDE;
+                case '%': return Rule.REST;
+                case '<': return Rule.BELOW;
+                case '=': return Rule.ALIKE;
+                case '>': return Rule.ABOVE;
+                default: return BAD;
             }
-            return value;
         }
     }
 
@@ -564,9 +635,18 @@ public final class MusicChairs {
         private static final int MOST_CLAUSES = 40;
         private static final int FEWEST_PLACES = 4;
         private static final int MOST_PLACES = 24;
+        private static final int WORD_DUE = 0;
+        private static final int NUMBER_DUE = 1;
+        private static final int CLAUSE_READ = 2;
+        private static final int ENDED = 3;
 
         private final Tape tape;
         private final Hall draft = new Hall();
+        private final int[] numbers = new int[3];
+        private int numbersRead = 0;
+        private int clause = 0;
+        private int clauses = 0;
+        private int state = WORD_DUE;
 
         private PartyReader(Tape tape) {
             this.tape = tape;
@@ -576,104 +656,127 @@ public final class MusicChairs {
         private int read() {
             tape.rewind();
             draft.clear();
-            for (int k = 0; k <= MOST_CLAUSES; k++) {
-                tape.skipBlanks();
-                if (!takeClause(k)) {
-                    return tape.fault;
-                }
-                tape.skipBlanks();
-                if (tape.isAtEnd()) {
-                    return 0;
-                }
-                if (!tape.takeSign(';')) {
-                    tape.fail(tape.at, 0);
+            clauses = 0;
+            state = WORD_DUE;
+            for (int k = 0; k <= MOST_BYTES && state != ENDED; k++) {
+                tape.readSign();
+                if (!takeSign()) {
                     return tape.fault;
                 }
             }
-            return tape.fault;
+            return 0;
         }
 
-        private boolean takeClause(int number) {
-            int start = tape.at;
-            boolean tooMany = number >= MOST_CLAUSES;
-            if (tape.takeWord("party")) {
-                return number > 0 ? refuse(start, 4) : takePlaces();
+        private boolean takeSign() {
+            switch (state) {
+                case WORD_DUE: return takeWord();
+                case NUMBER_DUE: return takeNumber();
+                default: return takeBehindClause();
             }
-            if (tape.takeWord("chair")) {
-                tooMany |= number == 0 || draft.chairs >= MOST_CHAIRS;
-                return tooMany ? refuse(start, 4) : takeChair();
-            }
-            if (tape.takeWord("guest")) {
-                tooMany |= number == 0 || draft.guests >= MOST_GUESTS;
-                return tooMany ? refuse(start, 4) : takeGuest();
-            }
-            return refuse(start, 0);
         }
 
-        private boolean refuse(int place, int sort) {
-            tape.fail(place, sort);
-            return false;
-        }
-
-        private boolean takePlaces() {
-            tape.skipBlanks();
-            int places = tape.takeNumber(FEWEST_PLACES, MOST_PLACES);
-            if (places == NONE) {
-                return false;
+        private boolean takeWord() {
+            clause = tape.sign;
+            if (clause != Tape.PARTY && clause != Tape.CHAIR && clause != Tape.GUEST) {
+                return tape.fail(0);
             }
-            draft.places = places;
+            boolean misplaced = (clause == Tape.PARTY) != (clauses == 0) || clauses >= MOST_CLAUSES;
+            boolean oneMore = clause == Tape.CHAIR && draft.chairs >= MOST_CHAIRS
+                    || clause == Tape.GUEST && draft.guests >= MOST_GUESTS;
+            if (misplaced || oneMore) {
+                return tape.fail(4);
+            }
+            clauses++;
+            numbersRead = 0;
+            state = NUMBER_DUE;
             return true;
         }
 
-        private boolean takeChair() {
-            tape.skipBlanks();
-            int start = tape.at;
-            int place = tape.takeNumber(0, draft.places - 1);
-            if (place == NONE) {
-                return false;
+        private boolean takeNumber() {
+            int number = tape.value;
+            if (tape.sign != Tape.NUMBER) {
+                return tape.fail(tape.sign == Tape.LONG_NUMBER ? 1 : 0);
             }
-            for (int c = 0; c < draft.chairs; c++) {
-                if (draft.chairPlace[c] == place) {
-                    return refuse(start, 1);
-                }
+            if (number < lowest() || number > highest() || clause == Tape.CHAIR && draft.hasChairAt(number)) {
+                return tape.fail(1);
             }
-            draft.addChair(place);
+            if (numbersRead >= 0 && numbersRead < numbers.length) {
+                numbers[numbersRead] = number;
+                numbersRead++;
+            }
+            if (clause != Tape.GUEST || numbersRead >= numbers.length) {
+                endClause();
+            }
             return true;
         }
 
-        private boolean takeGuest() {
-            tape.skipBlanks();
-            int place = tape.takeNumber(0, draft.places - 1);
-            if (place == NONE) {
-                return false;
+        private int lowest() {
+            if (clause == Tape.PARTY) {
+                return FEWEST_PLACES;
             }
-            tape.skipBlanks();
-            int step = tape.takeNumber(0, PACES - 1);
-            if (step == NONE) {
-                return false;
+            return numbersRead == 2 ? 1 : 0;
+        }
+
+        private int highest() {
+            if (clause == Tape.PARTY) {
+                return MOST_PLACES;
             }
-            tape.skipBlanks();
-            int quick = tape.takeNumber(1, QUICKEST);
-            if (quick == NONE) {
-                return false;
+            switch (numbersRead) {
+                case 0: return draft.places - 1;
+                case 1: return PACES - 1;
+                default: return QUICKEST;
             }
-            draft.addGuest(place, step, quick);
+        }
+
+        private void endClause() {
+            switch (clause) {
+                case Tape.PARTY:
+                    draft.places = numbers[0];
+                    break;
+                case Tape.CHAIR:
+                    draft.addChair(numbers[0]);
+                    break;
+                default:
+                    draft.addGuest(numbers[0], numbers[1], numbers[2]);
+            }
+            state = CLAUSE_READ;
+        }
+
+        private boolean takeBehindClause() {
+            if (tape.sign != Tape.NEXT && tape.sign != Tape.END) {
+                return tape.fail(0);
+            }
+            state = tape.sign == Tape.NEXT ? WORD_DUE : ENDED;
             return true;
         }
     }
 
-    /** Reads the text of a rule from the tape and makes its code. */
+    /** Reads the text of a rule from the tape and makes its code, in which signs stand behind what they join. */
     private static final class RuleReader {
         private static final int MOST_CLAUSES = 12;
         private static final int DEEPEST = 10;
         private static final int MOST_PARTS = 60;
-        private static final int GREATEST_NUMBER = 99999;
+        // of each bracket, not, and the text itself: an or and an and; beside these a fact's three
+        private static final int MOST_WAITING = 64;
+        private static final int PLAY_DUE = 0;
+        private static final int FACT_DUE = 1;
+        private static final int VALUE_DUE = 2;
+        private static final int VALUE_READ = 3;
+        private static final int FACT_READ = 4;
+        private static final int ENDED = 5;
 
         private final Tape tape;
         // a sign of the code stands for at least one byte of the text, so it never grows longer
         private final int[] code = new int[MOST_BYTES];
         private int length = 0;
+        private final int[] waiting = new int[MOST_WAITING];
+        private int top = 0;
+        private int state = PLAY_DUE;
+        private int clauses = 0;
         private int parts = 0;
+        private int depth = 0;
+        private boolean testing = false;
+        private boolean compared = false;
 
         private RuleReader(Tape tape) {
             this.tape = tape;
@@ -683,26 +786,159 @@ public final class MusicChairs {
         private int read() {
             tape.rewind();
             length = 0;
+            top = 0;
+            state = PLAY_DUE;
+            clauses = 0;
             parts = 0;
-            for (int k = 0; k <= MOST_CLAUSES; k++) {
-                tape.skipBlanks();
-                if (!takeClause(k)) {
-                    return tape.fault;
-                }
-                tape.skipBlanks();
-                if (tape.isAtEnd()) {
-                    return 0;
-                }
-                if (!tape.takeSign(';')) {
-                    tape.fail(tape.at, 0);
+            depth = 0;
+            for (int k = 0; k <= MOST_BYTES && state != ENDED; k++) {
+                tape.readSign();
+                if (!takeSign()) {
                     return tape.fault;
                 }
             }
-            return tape.fault;
+            return 0;
         }
 
         private Rule made() {
             return new Rule(Arrays.copyOf(code, length));
+        }
+
+        private boolean takeSign() {
+            switch (state) {
+                case PLAY_DUE: return takePlay();
+                case FACT_DUE: return takeFact();
+                case VALUE_DUE: return takeValue();
+                case VALUE_READ: return takeBehindValue();
+                default: return takeBehindFact();
+            }
+        }
+
+        private boolean takePlay() {
+            if (tape.sign != Rule.PLAY) {
+                return tape.fail(0);
+            }
+            if (clauses >= MOST_CLAUSES) {
+                return tape.fail(4);
+            }
+            clauses++;
+            testing = false;
+            state = VALUE_DUE;
+            return true;
+        }
+
+        private boolean takeFact() {
+            compared = false;
+            if (tape.sign != Rule.OPEN && tape.sign != Rule.NOT) {
+                return takeValue();
+            }
+            if (depth >= DEEPEST) {
+                return tape.fail(2);
+            }
+            depth++;
+            push(FACT_DUE);
+            return true;
+        }
+
+        private boolean takeValue() {
+            boolean isNumber = tape.sign == Tape.NUMBER;
+            boolean isWord = tape.sign < 0 && tape.sign >= -Rule.WORDS;
+            if (!isNumber && !isWord) {
+                return tape.fail(tape.sign == Tape.LONG_NUMBER ? 1 : 0);
+            }
+            if (parts >= MOST_PARTS) {
+                return tape.fail(3);
+            }
+            parts++;
+            emit(isNumber ? tape.value : tape.sign);
+            state = VALUE_READ;
+            return true;
+        }
+
+        private boolean takeBehindValue() {
+            int rank = rankOf(tape.sign);
+            if (rank >= Rule.RANK_ADD) {
+                release(rank);
+                push(VALUE_DUE);
+                return true;
+            }
+            if (testing) {
+                return compared ? takeBehindFact() : takeComparing();
+            }
+            if (tape.sign != Rule.IF) {
+                return takeEnd(Rule.PLAY);
+            }
+            release(Rule.RANK_OR);
+            testing = true;
+            state = FACT_DUE;
+            return true;
+        }
+
+        private boolean takeComparing() {
+            if (rankOf(tape.sign) != Rule.RANK_COMPARE) {
+                return tape.fail(0);
+            }
+            if (parts >= MOST_PARTS) {
+                return tape.fail(3);
+            }
+            parts++;
+            compared = true;
+            release(Rule.RANK_COMPARE);
+            push(VALUE_DUE);
+            return true;
+        }
+
+        private boolean takeBehindFact() {
+            if (tape.sign == Rule.AND || tape.sign == Rule.OR) {
+                release(rankOf(tape.sign));
+                push(FACT_DUE);
+                return true;
+            }
+            if (tape.sign != Tape.CLOSE) {
+                return takeEnd(Rule.IF);
+            }
+            release(Rule.RANK_OR);
+            if (top <= 0) {
+                return tape.fail(0);
+            }
+            top--;
+            depth--;
+            state = FACT_READ;
+            return true;
+        }
+
+        private boolean takeEnd(int mark) {
+            if (tape.sign != Tape.NEXT && tape.sign != Tape.END) {
+                return tape.fail(0);
+            }
+            release(Rule.RANK_OR);
+            if (top > 0) {
+                // a bracket is open still
+                return tape.fail(0);
+            }
+            emit(mark);
+            state = tape.sign == Tape.NEXT ? PLAY_DUE : ENDED;
+            return true;
+        }
+
+        /** The sign that was read waits till what it joins is read. */
+        private void push(int due) {
+            if (top >= 0 && top < MOST_WAITING) {
+                waiting[top] = tape.sign;
+                top++;
+            }
+            state = due;
+        }
+
+        /** Signs that wait go into the code, down to the first that binds less than this rank. */
+        private void release(int rank) {
+            while (top > 0 && rankOf(waiting[top - 1]) >= rank) {
+                top--;
+                if (waiting[top] == Rule.NOT) {
+                    depth--;
+                }
+                emit(waiting[top]);
+            }
         }
 
         private void emit(int sign) {
@@ -712,205 +948,17 @@ public final class MusicChairs {
             }
         }
 
-        private boolean refuse(int place, int sort) {
-            tape.fail(place, sort);
-            return false;
-        }
-
-        private boolean takeClause(int number) {
-            int start = tape.at;
-            if (!tape.takeWord("play")) {
-                return refuse(start, 0);
+        private static int rankOf(int sign) {
+            switch (sign) {
+                case Rule.TIMES: case Rule.DIVIDE: case Rule.REST: return Rule.RANK_TIMES;
+                case Rule.ADD: case Rule.LESSEN: return Rule.RANK_ADD;
+                case Rule.BELOW: case Rule.AT_MOST: case Rule.ALIKE: case Rule.AT_LEAST: case Rule.ABOVE:
+                    return Rule.RANK_COMPARE;
+                case Rule.NOT: return Rule.RANK_NOT;
+                case Rule.AND: return Rule.RANK_AND;
+                case Rule.OR: return Rule.RANK_OR;
+                default: return 0;
             }
-            if (number >= MOST_CLAUSES) {
-                return refuse(start, 4);
-            }
-            if (!takeSum()) {
-                return false;
-            }
-            tape.skipBlanks();
-            if (!tape.takeWord("if")) {
-                emit(Rule.PLAY);
-                return true;
-            }
-            if (!takeTest(0)) {
-                return false;
-            }
-            emit(Rule.IF);
-            return true;
-        }
-
-        private boolean takeTest(int depth) {
-            if (!takePart(depth)) {
-                return false;
-            }
-            for (int k = 0; k < MOST_BYTES; k++) {
-                tape.skipBlanks();
-                if (!tape.takeWord("or")) {
-                    return true;
-                }
-                if (!takePart(depth)) {
-                    return false;
-                }
-                emit(Rule.OR);
-            }
-            return true;
-        }
-
-        private boolean takePart(int depth) {
-            if (!takeFact(depth)) {
-                return false;
-            }
-            for (int k = 0; k < MOST_BYTES; k++) {
-                tape.skipBlanks();
-                if (!tape.takeWord("and")) {
-                    return true;
-                }
-                if (!takeFact(depth)) {
-                    return false;
-                }
-                emit(Rule.AND);
-            }
-            return true;
-        }
-
-        private boolean takeFact(int depth) {
-            tape.skipBlanks();
-            int start = tape.at;
-            boolean opens = tape.takeSign('[');
-            boolean denies = !opens && tape.takeWord("not");
-            if (!opens && !denies) {
-                return takeComparison();
-            }
-            if (depth >= DEEPEST) {
-                return refuse(start, 2);
-            }
-            if (denies) {
-                if (!takeFact(depth + 1)) {
-                    return false;
-                }
-                emit(Rule.NOT);
-                return true;
-            }
-            if (!takeTest(depth + 1)) {
-                return false;
-            }
-            tape.skipBlanks();
-            return tape.takeSign(']') || refuse(tape.at, 0);
-        }
-
-        private boolean takeComparison() {
-            if (!takeSum()) {
-                return false;
-            }
-            tape.skipBlanks();
-            int start = tape.at;
-            int sign = takeComparing();
-            if (sign == 0) {
-                return refuse(start, 0);
-            }
-            if (!countPart(start) || !takeSum()) {
-                return false;
-            }
-            emit(sign);
-            return true;
-        }
-
-        /** The code of the comparing sign that stands here, 0 if there is none. */
-        private int takeComparing() {
-            if (tape.takeSign('<')) {
-                return tape.takeSign('=') ? Rule.AT_MOST : Rule.BELOW;
-            }
-            if (tape.takeSign('>')) {
-                return tape.takeSign('=') ? Rule.AT_LEAST : Rule.ABOVE;
-            }
-            return tape.takeSign('=') ? Rule.ALIKE : 0;
-        }
-
-        private boolean takeSum() {
-            if (!takeTerm()) {
-                return false;
-            }
-            for (int k = 0; k < MOST_BYTES; k++) {
-                tape.skipBlanks();
-                int sign = tape.takeSign('+') ? Rule.ADD : tape.takeSign('-') ? Rule.LESSEN : 0;
-                if (sign == 0) {
-                    return true;
-                }
-                if (!takeTerm()) {
-                    return false;
-                }
-                emit(sign);
-            }
-            return true;
-        }
-
-        private boolean takeTerm() {
-            if (!takeValue()) {
-                return false;
-            }
-            for (int k = 0; k < MOST_BYTES; k++) {
-                tape.skipBlanks();
-                int sign = takeTimes();
-                if (sign == 0) {
-                    return true;
-                }
-                if (!takeValue()) {
-                    return false;
-                }
-                emit(sign);
-            }
-            return true;
-        }
-
-        private int takeTimes() {
-            if (tape.takeSign('*')) {
-                return Rule.TIMES;
-            }
-            if (tape.takeSign('/')) {
-                return Rule.DIVIDE;
-            }
-            return tape.takeSign('%') ? Rule.REST : 0;
-        }
-
-        private boolean takeValue() {
-            tape.skipBlanks();
-            int start = tape.at;
-            int sign;
-            if (tape.isDigit()) {
-                sign = tape.takeNumber(0, GREATEST_NUMBER);
-                if (sign == NONE) {
-                    return false;
-                }
-            } else {
-                sign = takeNamed();
-                if (sign == 0) {
-                    return refuse(start, 0);
-                }
-            }
-            if (!countPart(start)) {
-                return false;
-            }
-            emit(sign);
-            return true;
-        }
-
-        /** The code of the word for a value that stands here, 0 if there is none. */
-        private int takeNamed() {
-            for (int k = 0; k < Rule.WORDS; k++) {
-                if (tape.takeWord(Rule.wordOf(k))) {
-                    return -1 - k;
-                }
-            }
-            return 0;
-        }
-
-        private boolean countPart(int place) {
-            if (parts >= MOST_PARTS) {
-                return refuse(place, 3);
-            }
-            parts++;
-            return true;
         }
     }
 
@@ -932,6 +980,14 @@ public final class MusicChairs {
         private static final int NOT = -23;
         private static final int PLAY = -24;
         private static final int IF = -25;
+        private static final int OPEN = -26;
+        // how strongly signs bind
+        private static final int RANK_OR = 1;
+        private static final int RANK_AND = 2;
+        private static final int RANK_NOT = 3;
+        private static final int RANK_COMPARE = 4;
+        private static final int RANK_ADD = 5;
+        private static final int RANK_TIMES = 6;
         // two facts wait at each depth at most, and four values beside these
         private static final int STACK = 64;
 
@@ -941,21 +997,6 @@ public final class MusicChairs {
 
         private Rule(int[] code) {
             this.code = code;
-        }
-
-        private static String wordOf(int number) {
-            switch (number) {
-                case 0: return "places";
-                case 1: return "round";
-                case 2: return "guests";
-                case 3: return "chairs";
-                case 4: return "last";
-                case 5: return "beats";
-                case 6: return "fast";
-                case 7: return "slow";
-                case 8: return "near";
-                default: return "tired";
-            }
         }
 
         /** The sum of the first clause without a test or whose test holds; 0 without one. */
@@ -1084,6 +1125,15 @@ public final class MusicChairs {
             }
         }
 
+        private boolean hasChairAt(int where) {
+            for (int c = 0; c < chairs; c++) {
+                if (chairPlace[c] == where) {
+                    return true;
+                }
+            }
+            return false;
+        }
+
         private boolean isTold() {
             return places > 0;
         }
@@ -1117,15 +1167,12 @@ public final class MusicChairs {
             return Integer.bitCount(in) == 1 ? Integer.numberOfTrailingZeros(in) : -2;
         }
 
-        private int far(int one, int other) {
-            int way = one < other ? other - one : one - other;
-            return way < places - way ? way : places - way;
-        }
-
         /** The time of a guest and a chair that were told. */
         private int timeFor(int guest, int chair) {
+            int way = Math.abs(place[guest] - chairPlace[chair]);
+            int far = Math.min(way, places - way);
             int swiftness = quick[guest];
-            return swiftness < 1 ? 0 : far(place[guest], chairPlace[chair]) * (10 + tired[guest]) / swiftness;
+            return swiftness < 1 ? 0 : far * (10 + tired[guest]) / swiftness;
         }
 
         /** What the word of a rule says. */
@@ -1256,6 +1303,7 @@ public final class MusicChairs {
         /** A round of so many beats, in a hall where it is not over: who sits, as bits. */
         private int roundOf(Hall hall, int beats) {
             walk(hall, beats);
+            measure(hall);
             int sitting = seatAll(hall);
             settle(hall, sitting);
             hall.beats = beats;
@@ -1272,7 +1320,6 @@ public final class MusicChairs {
         }
 
         private int seatAll(Hall hall) {
-            measure(hall);
             int standing = hall.in;
             int free = hall.there;
             lastTaken = NONE;

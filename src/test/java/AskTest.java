@@ -109,6 +109,7 @@ public final class AskTest {
     private static void rows() {
         MusicChairs x = Due.at(TWO);
         Due.is("0 for 1", x.row(0, 1, 0), 5);
+        Due.is("0 for 1, the first", x.row(0, 1, 1), 1);
         Due.is("1 for 1", x.row(1, 1, 0), 1);
         Due.is("1 for 1", x.row(1, 1, 1), 4);
         Due.is("not so many rounds", x.row(1, 1, 2), -1);
@@ -241,6 +242,8 @@ public final class AskTest {
         Due.is("no guest", x.away(3, 1, 0), -2);
         Due.is("no guest", x.away(-1, 1, 0), -2);
         Due.is("all chairs stay", x.count(7), 7);
+        MusicChairs first = Due.at("party 5;chair 4;chair 2;chair 0;guest 0 1 3;guest 2 0 1;guest 3 1 1");
+        Due.is("told first, that is chair 0", first.away(1, 2, 0), 0);
         MusicChairs y = Due.at(TWO);
         Due.is("never: none", y.away(1, 3, 0), -1);
         Due.is("never: 0", y.away(1, 3, 1), 0);
@@ -270,6 +273,7 @@ public final class AskTest {
         Due.is("where they are", z.begin(1, 1, 0), 5);
         MusicChairs w = Due.at("party 8;chair 2;guest 4 0 1;guest 6 0 1");
         Due.is("the least of 1, 2, 3", w.begin(1, 1, 0), 1);
+        Due.is("place 0", Due.at("party 6;chair 2;guest 3 0 1;guest 4 1 1").begin(1, 1, 0), 0);
         x.round();
         Due.is("out", x.begin(1, 1, 0), -1);
         Due.is("over: where they are", x.begin(0, 1, 0), 0);
@@ -297,11 +301,16 @@ public final class AskTest {
         Due.is("two rounds: none", y.rests(0, 1, 2, 0), 0);
         Due.is("none", y.rests(0, 1, 2, 1), -2);
         Due.is("none", y.rests(0, 1, 20, 2), -2);
+        // step 0 keeps 0 on the chair; by any other 1 could take it, and 0 had better stay
+        MusicChairs stay = Due.at("party 7;chair 0;guest 0 0 1;guest 3 0 1");
+        Due.is("0 stays", stay.rests(0, 1, 1, 0), 6);
+        Due.is("0 stays", stay.rests(1, 0, 1, 0), 6);
         x.round();
         Due.is("out", x.rests(0, 1, 1, 0), -1);
         MusicChairs z = Due.at("party 6;guest 5 1 3;guest 2 0 3");
         Due.is("over: all alike", z.rests(1, 0, 20, 0), 36);
         Due.is("over: the first", z.rests(1, 0, 20, 1), 0);
+        Due.is("over: the first", z.rests(1, 0, 20, 2), 0);
     }
 
     private static void nothingChanges() {

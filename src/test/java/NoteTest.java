@@ -92,6 +92,9 @@ public final class NoteTest {
         Due.is("too little", x.pence(-1, 0), -1);
         Due.is("no guest", x.pence(1, 3), -1);
         Due.is("no guest", x.pence(1, -1), -1);
+        MusicChairs one = Due.at(TWO);
+        one.round();
+        Due.is("one sat once", one.pence(5, 0), 5);
         // of 3 with equal parts 2 have one each
         MusicChairs y = Due.at("party 12;chair 0;chair 4;chair 8;guest 0 0 1;guest 4 0 1;guest 8 0 1");
         y.play(1);
@@ -160,6 +163,12 @@ public final class NoteTest {
         Due.is("no guests", Due.at("party 4;chair 0").look(0, 1), -2);
         // 0 always sits on chair 1; 1 and 2 are as in TWO
         MusicChairs x = Due.at("party 6;chair 0;chair 3;guest 3 0 9;guest 1 0 1;guest 2 1 1");
+        MusicChairs two = Due.at(TWO);
+        Due.rule(two, "play 4");
+        Due.rule(two, "play 10");
+        Due.rule(two, "play 1");
+        Due.is("0 parts as well as 1", two.look(0, 0), 0);
+        Due.is("0 parts as well as 1", two.look(0, 1), 2);
         Due.is("one rule: the least", x.look(0, 0), 0);
         Due.is("one rule: one", x.look(0, 1), 1);
         Due.rule(x, "play 4");
@@ -201,6 +210,10 @@ public final class NoteTest {
         Due.is("twenty", x.tunes(20, 6, 0), 16);
         Due.is("nobody", x.tunes(20, 6, -1), 0);
         Due.is("x as it was", x.count(13), 0);
+        // here 1 wins by 5 beats, 4 of the draws
+        MusicChairs y = Due.at("party 7;chair 0;guest 1 0 1;guest 2 1 1");
+        Due.is("ten", y.tunes(10, 6, 1), 2);
+        Due.is("ten", y.tunes(10, 6, 0), 8);
         x.seed(551188310);
         Due.is("from another on", x.tunes(1, 6, 1), 1);
         Due.is("one beat", x.tunes(20, 1, 1), 0);
@@ -295,7 +308,7 @@ public final class NoteTest {
         for (int k = 0; k < 15; k++) {
             x.undo();
         }
-        for (int k = 0; k < 9; k++) {
+        for (int k = 0; k < 25; k++) {
             x.swap(0, 1);
         }
         x.back(2);
@@ -305,6 +318,23 @@ public final class NoteTest {
             Due.is("place", x.guest(0, 0), 1);
         }
         Due.is("none more", x.undo(), -2);
+        MusicChairs y = Due.at(TWO);
+        y.pace(0, 1);
+        y.pace(0, 2);
+        y.pace(0, 3);
+        y.image(0);
+        for (int k = 0; k < 3; k++) {
+            y.undo();
+        }
+        for (int k = 0; k < 3; k++) {
+            y.swap(0, 1);
+        }
+        y.back(0);
+        for (int k = 2; k >= 0; k--) {
+            Due.is("undo", y.undo(), k);
+            Due.is("step", y.guest(0, 1), k);
+            Due.is("place", y.guest(0, 0), 1);
+        }
         Due.is("once more", x.back(2), 0);
         Due.is("acts", x.count(12), 20);
     }

@@ -163,6 +163,9 @@ public final class TextTest {
         ruleFault("plays 1", 0, 0);
         ruleFault("playplaces", 0, 0);
         ruleFault("party 8", 0, 0);
+        ruleFault("playz 1", 0, 0);
+        ruleFault("play 1`", 6, 0);
+        ruleFault("play 1{", 6, 0);
         ruleFault("play 1;", 7, 0);
         ruleFault("play 1 2", 7, 0);
         ruleFault("play place", 5, 0);
@@ -206,6 +209,8 @@ public final class TextTest {
         ruleFault("play 1 if " + "not ".repeat(11) + "1<2", 50, 2);
         ruleFault("play 1 if " + "[not ".repeat(5) + "[1<2", 35, 2);
         ruleFault("play 1 if " + "[".repeat(10) + "1<2" + "]".repeat(11), 33, 0);
+        ruleFault("play 1+1 if 1+1<2 and 1*1<2 or " + "[".repeat(11), 31 + 10, 2);
+        ruleFault("play 1 if [not 1<2] and not [1<2] or " + "not ".repeat(11), 37 + 40, 2);
         ruleFault("play 1" + "+1".repeat(60), 5 + 120, 3);
         ruleFault("play 1" + "+1".repeat(59) + ";play 1", 5 + 119 + 1 + 5, 3);
         ruleFault("play 1" + "+1".repeat(58) + " if 1<2", 5 + 117 + 4 + 1, 3);
@@ -273,6 +278,13 @@ public final class TextTest {
         worth("play 5 if 1=1", 5);
         worth("play 5 if 1>=1", 5);
         worth("play 5 if 1>1", 1);
+        worth("play 5 if 1<=2", 5);
+        worth("play 5 if 2<=1", 1);
+        worth("play 5 if 1>=2", 1);
+        worth("play 5 if 2>=1", 5);
+        worth("play 5 if not 1=1", 1);
+        worth("play 5 if 1=1 and not 1=1 or 1=2", 1);
+        worth("play 5 if [[not 1=2] and not [not 1=1]]", 5);
         worth("play 5 if 1=1 or 1=1 and 1=2", 5);
         worth("play 5 if [1=1 or 1=1] and 1=2", 1);
         worth("play 5 if 1=2 and 1=2 or 1=1", 5);
@@ -291,6 +303,10 @@ public final class TextTest {
         worth("play beats+20", 20);
         worth("play fast", 5);
         worth("play slow+20", 21);
+        Due.is("0 is the fastest", Due.by("party 9;chair 1;guest 1 4 1;guest 1 2 1", "play fast").round(), 4);
+        Due.is("0 is the slowest", Due.by("party 9;chair 1;guest 1 2 1;guest 1 4 1", "play slow").round(), 2);
+        Due.is("nobody moves", Due.by("party 9;chair 1;guest 1 0 1;guest 1 0 1", "play fast+9").round(), 9);
+        Due.is("0 is no chair's place", Due.by("party 9;chair 1;guest 0 0 1;guest 0 0 1", "play near+9").round(), 9);
         worth("play near+20", 23);
         worth("play tired+20", 20);
         // behind a round of 1 beat: 0 at 3 goes to 4, 1 at 9 stays, 2 at 5 is out, for chair 0 is 2 away and
@@ -300,7 +316,7 @@ public final class TextTest {
         Due.is("who is in", x.count(6), 3);
         Due.is("what is there", x.count(7), 2);
         x.pace(2, 0);
-        String[] rules = {"play round*7", "play last+9", "play beats+9", "play slow+9", "play near+9", "play tired+9"};
+        String[] rules = {"play round*7", "play last+9", "play beats+9", "play slow+9", "play near+9", "play 0+tired+9"};
         int[] due = {7, 11, 10, 11, 10, 10};
         for (int k = 0; k < rules.length; k++) {
             Due.is("rule", Due.rule(x, rules[k]), k);
