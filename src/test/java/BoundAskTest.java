@@ -32,6 +32,7 @@ public final class BoundAskTest {
         rests();
         noRests();
         restsRefused();
+        againAndAgain();
         Due.end("BoundAskTest");
     }
 
@@ -172,6 +173,16 @@ public final class BoundAskTest {
             many *= 6;
             others *= 6;
         }
+        // both sit for five rounds, whatever the beats
+        Twin.Maker six = () -> Due.at("party 24;chair 0;chair 1;chair 2;chair 3;chair 4;chair 5;guest 5 0 1;guest 6 0 1");
+        int all = 1;
+        for (int n = 1; n <= 4; n++) {
+            int rounds = n;
+            all *= 6;
+            asked("all rows", six, x -> x.row(0, rounds, 0), all);
+            asked("all rows", six, x -> x.row(1, rounds, 0), all);
+            asked("the first one", six, x -> x.row(1, rounds, rounds), 1);
+        }
         asked("over", Twin::over, x -> x.row(2, 1, 0), 6);
         asked("over", Twin::over, x -> x.row(2, 4, 0), 1296);
         asked("over", Twin::over, x -> x.row(2, 4, 4), 1);
@@ -273,6 +284,19 @@ public final class BoundAskTest {
         for (int what = -1; what < 3; what++) {
             int w = what;
             asked("kind(" + what + ")", one, x -> x.kind(w), less[what + 1]);
+        }
+        // 0 + 10 + 50, or 10 + 0 + 50
+        Twin.Maker way = () -> Due.at("party 24;chair 4;chair 3;chair 12;guest 4 0 1;guest 4 0 1;guest 7 0 1");
+        int[] best = {60, 0, 1, 2};
+        for (int what = -1; what < 3; what++) {
+            int w = what;
+            asked("kind(" + what + ")", way, x -> x.kind(w), best[what + 1]);
+        }
+        Twin.Maker turned = () -> Due.at("party 24;chair 20;chair 12;chair 4;guest 11 0 1;guest 3 0 1;guest 22 0 1");
+        int[] back = {40, 1, 2, 0};
+        for (int what = -1; what < 3; what++) {
+            int w = what;
+            asked("kind(" + what + ")", turned, x -> x.kind(w), back[what + 1]);
         }
     }
 
@@ -435,11 +459,18 @@ public final class BoundAskTest {
         asked("the second", five, x -> x.rests(0, 1, 1, 2), 5);
         asked("turned round", five, x -> x.rests(1, 0, 1, 1), 5);
         asked("turned round", five, x -> x.rests(1, 0, 1, 2), 0);
+        // step 0 keeps 0 on the chair, whatever 1 does; by any other one 1 could take it
+        Twin.Maker stay = () -> Due.at("party 7;chair 0;guest 0 3 1;guest 3 0 1");
+        asked("how many", stay, x -> x.rests(0, 1, 1, 0), 6);
+        asked("turned round", stay, x -> x.rests(1, 0, 1, 0), 6);
+        asked("step 0", stay, x -> x.rests(0, 1, 1, 1), 0);
+        asked("step 0", stay, x -> x.rests(1, 0, 1, 2), 0);
     }
 
     /** -2: there is none. */
     private static void noRests() {
         Twin.Maker none = () -> Due.at("party 6;chair 2;chair 0;guest 5 1 3;guest 2 0 3");
+        asked("for one round all are alike", none, x -> x.rests(0, 1, 1, 0), 36);
         asked("how many", none, x -> x.rests(0, 1, 2, 0), 0);
         asked("the first", none, x -> x.rests(0, 1, 2, 1), -2);
         asked("the second", none, x -> x.rests(0, 1, 2, 2), -2);
@@ -454,5 +485,20 @@ public final class BoundAskTest {
             Twin.refused("no party", MusicChairs::new, x -> x.rests(0, 1, 1, w), -1);
         }
         Twin.refusedAll("what of rests", Twin::midway, (x, what) -> x.rests(0, 2, 1, what), -1, 3, -1);
+    }
+
+    /** By what is asked nothing changes: not even what is asked next. */
+    private static void againAndAgain() {
+        Twin.Maker[] makers = {Twin::midway, () -> Due.at(Twin.THREE), Twin::over, Twin::chairless,
+            () -> Due.at("party 5;chair 2;chair 0;chair 4;guest 0 1 3;guest 2 0 1;guest 3 1 1")};
+        for (Twin.Maker maker : makers) {
+            Twin.askedInAnyOrder(maker, x -> x.ahead(0, 1, 0), x -> x.winner(0), x -> x.gone(0), x -> x.gone(1),
+                x -> x.safe(0, 0), x -> x.safe(1, 1), x -> x.row(0, 1, 1), x -> x.row(1, 2, 1), x -> x.row(2, 1, 1),
+                x -> x.row(2, 4, 0), x -> x.within(999), x -> x.within(0), x -> x.kind(-1), x -> x.within(4),
+                x -> x.kind(2), x -> x.longest(), x -> x.meet(0, 1), x -> x.tour(), x -> x.away(1, 2, 0),
+                x -> x.away(0, 1, 0), x -> x.away(1, 2, 1), x -> x.begin(1, 1, 0), x -> x.begin(0, 20, 1),
+                x -> x.rests(0, 1, 2, 0), x -> x.rests(0, 2, 1, 1), x -> x.rests(0, 2, 1, 2), x -> x.steps(0),
+                x -> x.quicks(1), x -> x.ruled(1), x -> x.look(0, 1), x -> x.tunes(9, 9, 0), x -> x.pence(99, 0));
+        }
     }
 }

@@ -35,6 +35,7 @@ public final class BoundNoteTest {
         imagesApart();
         imagesOfAllActs();
         imagesStay();
+        imagesOfNotes();
         imageOfNoParty();
         imagesRefused();
         Due.end("BoundNoteTest");
@@ -110,6 +111,13 @@ public final class BoundNoteTest {
             asked("nobody has sat", () -> Due.at(Twin.THREE), x -> x.pence(9999, guest), 0);
             asked("nobody has sat", () -> Due.at(Twin.THREE), x -> x.pence(0, guest), 0);
         }
+        Twin.Maker once = () -> {
+            MusicChairs x = Due.at(TWO);
+            x.play(4);
+            return x;
+        };
+        asked("one has sat, once", once, x -> x.pence(9999, 1), 9999);
+        asked("one has sat, once", once, x -> x.pence(9999, 0), 0);
     }
 
     /** What is left goes to those who lost most; 0 to 6 sat 6 to 0 times. */
@@ -310,7 +318,7 @@ public final class BoundNoteTest {
         Due.is("no act", y.undo(), -2);
     }
 
-    /** How many of m draws from x on make beats by which guest 1 of TWO sits, each party being one round. */
+    /** How many of m draws from x on make beats by which guest 1 comes from 2 to 7, each party being one round. */
     private static int expected(int x, int m, int p) {
         BigInteger rest = BigInteger.valueOf(2147483648L);
         BigInteger now = BigInteger.valueOf(x);
@@ -318,7 +326,7 @@ public final class BoundNoteTest {
         for (int k = 0; k < m; k++) {
             now = now.multiply(BigInteger.valueOf(1103515245)).add(BigInteger.valueOf(12345)).mod(rest);
             int beats = 1 + now.divide(BigInteger.valueOf(65536)).mod(BigInteger.valueOf(p)).intValue();
-            if (beats % 6 == 4) {
+            if (beats % 7 == 5) {
                 many++;
             }
         }
@@ -329,7 +337,7 @@ public final class BoundNoteTest {
     private static void draws() {
         int[] seeds = {0, 1, 12345, 65535, 65536, 1073741823, 1073741824, 2147418112, 2147483646, 2147483647};
         for (int seed : seeds) {
-            MusicChairs x = Due.at(TWO);
+            MusicChairs x = Due.at("party 7;chair 0;guest 1 0 1;guest 2 1 1");
             x.seed(seed);
             for (int p : new int[] {1, 2, 3, 4, 5, 31, 32, 59, 60}) {
                 for (int m : new int[] {1, 2, 19, 20}) {
@@ -356,6 +364,9 @@ public final class BoundNoteTest {
                 asked("somebody is", Twin::midway, x -> x.tunes(m, p, -1), 0);
             }
         }
+        asked("six rounds", () -> Due.at(SIX_ROUNDS), x -> x.tunes(20, 60, 0), 20);
+        asked("six rounds", () -> Due.at(SIX_ROUNDS), x -> x.tunes(20, 60, 1), 0);
+        asked("six rounds", () -> Due.at(SIX_ROUNDS), x -> x.tunes(20, 60, -1), 0);
         // one beat: guest 2 is nearer
         asked("one beat", Twin::midway, x -> x.tunes(20, 1, 2), 20);
     }
@@ -442,28 +453,35 @@ public final class BoundNoteTest {
 
     /** What can be UNDONE, too: all 20, wherever they lie. */
     private static void imagesOfAllActs() {
-        for (int acts : new int[] {1, 19, 20, 21, 30, 41}) {
-            MusicChairs x = Due.at("party 24;guest 0 0 1;guest 1 0 1");
-            for (int k = 1; k <= acts; k++) {
-                x.pace(0, k % 6);
+        for (int acts : new int[] {1, 2, 19, 20, 21, 30, 41}) {
+            for (int undone : new int[] {0, 1, 9, 10, 11, 20}) {
+                imageOfActs(acts, undone);
             }
-            x.image(0);
-            for (int k = 0; k < 13; k++) {
-                x.undo();
-            }
-            for (int k = 0; k < 23; k++) {
-                x.swap(0, 1);
-            }
-            x.back(0);
-            int kept = Math.min(acts, 20);
-            Due.is("acts", x.count(12), kept);
-            for (int k = 1; k <= kept; k++) {
-                Due.is("undo", x.undo(), kept - k);
-                Due.is("step", x.guest(0, 1), (acts - k) % 6);
-                Due.is("place", x.guest(0, 0), 0);
-            }
-            Due.is("none more", x.undo(), -2);
         }
+    }
+
+    /** So many acts, an image, so many of them undone, more acts of another sort than can be kept, and back. */
+    private static void imageOfActs(int acts, int undone) {
+        MusicChairs x = Due.at("party 24;guest 0 0 1;guest 1 0 1");
+        for (int k = 1; k <= acts; k++) {
+            x.pace(0, k % 6);
+        }
+        x.image(0);
+        for (int k = 0; k < undone; k++) {
+            x.undo();
+        }
+        for (int k = 0; k < 23; k++) {
+            x.swap(0, 1);
+        }
+        x.back(0);
+        int kept = Math.min(acts, 20);
+        Due.is("acts", x.count(12), kept);
+        for (int k = 1; k <= kept; k++) {
+            Due.is("undo", x.undo(), kept - k);
+            Due.is("step", x.guest(0, 1), (acts - k) % 6);
+            Due.is("place", x.guest(0, 0), 0);
+        }
+        Due.is("none more", x.undo(), -2);
     }
 
     /** Gone back to, it is as it was, however often. */
@@ -486,6 +504,24 @@ public final class BoundNoteTest {
             }
             Due.is("none more", x.undo(), -2);
             x.pace(0, 5);
+        }
+    }
+
+    /** NOTES are in an image with all they say. */
+    private static void imagesOfNotes() {
+        int[][] notes = {{4, 1, 1}, {5, 1, 1}, {5, 0, 1}, {5, 1, 0}, {20, 0, 0}};
+        for (int[] one : notes) {
+            for (int[] other : notes) {
+                MusicChairs x = Due.at(SIX_ROUNDS);
+                x.note(one[0], one[1], one[2]);
+                int due = x.ruled(0);
+                x.image(0);
+                x.note(-1, 0, 0);
+                x.note(other[0], other[1], other[2]);
+                x.back(0);
+                Due.is("notes", x.count(11), 1);
+                Due.is("as noted", x.ruled(0), due);
+            }
         }
     }
 

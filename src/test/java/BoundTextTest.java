@@ -136,6 +136,12 @@ public final class BoundTextTest {
         Due.is("one less", x.end(7), 7);
         Due.is("what was cut off is gone", x.end(8), -1);
         Due.is("cut", x.party(), Due.fault(6, 1));
+        Due.tell(x, "play 1 if 1<=2");
+        Due.is("two less", x.end(12), 12);
+        Due.is("what was cut off is no part of a sign", x.rule(), Due.fault(12, 0));
+        Due.tell(x, "play guests");
+        Due.is("one less", x.end(10), 10);
+        Due.is("what was cut off is no part of a word", x.rule(), Due.fault(5, 0));
         Due.tell(x, "party 8;");
         Due.is("one less", x.end(7), 7);
         Due.is("feed comes behind them", x.feed(Due.word(";cha", 0), Due.word("ir 3", 0), 0, 0, 0), 27);
@@ -279,7 +285,10 @@ public final class BoundTextTest {
         Due.is("a smaller one", Due.party(x, "party 4"), 0);
         Due.is("no chair", x.chair(0, 0), -1);
         Due.is("no guest", x.guest(0, 0), -1);
-        Due.is("nobody is in", x.count(6), 0);
+        int[] less = {4, 0, 0, 6, 5, 0, 0, 0, 1, -1, 0, 0, 0, 2147483647, 0};
+        for (int what = 0; what < less.length; what++) {
+            Due.is("count(" + what + ")", x.count(what), less[what]);
+        }
         Due.is("images stay", x.back(3), 2);
         Due.is("images stay", x.count(2), 7);
     }
@@ -408,6 +417,10 @@ public final class BoundTextTest {
     private static void digitsOfARule() {
         worth("play 99999-99960", 39);
         worth("play 00007", 7);
+        MusicChairs x = Twin.midway();
+        Due.is("0 is a number", Due.rule(x, "play 0+9+00000"), 2);
+        x.force(2);
+        Due.is("0 is a number, when some are tired", x.round(), 9);
         ruleFault("play 100000", 5, 1);
         ruleFault("play 000007", 5, 1);
         ruleFault("play 1+100000", 7, 1);
@@ -470,7 +483,8 @@ public final class BoundTextTest {
         for (String word : right) {
             rule("play " + word);
             rule("play 5+" + word + "*5");
-            ruleFault("play " + word + "x", 5, 0);
+            ruleFault("play " + word + "a", 5, 0);
+            ruleFault("play " + word + "z", 5, 0);
             ruleFault("play " + word.substring(1), 5, 0);
             ruleFault("play " + word.substring(0, word.length() - 1), 5, 0);
             ruleFault("play " + word + "A", 5 + word.length(), 0);
@@ -593,6 +607,20 @@ public final class BoundTextTest {
         worth("play 5 if 3>3;play 6 if 3>=3", 6);
         worth("play 5 if 3=2;play 6 if 3=3", 6);
         worth("play 5 if 3<=2;play 6 if 2>=3;play 7 if 2<=3", 7);
+        String[] right = {"2<3", "2<=3", "3<=3", "3=3", "3>=3", "3>=2", "3>2"};
+        String[] wrong = {"3<2", "3<3", "3<=2", "3=2", "2>=3", "3>3", "2>3"};
+        for (String one : right) {
+            for (String other : wrong) {
+                worth("play 5 if " + other + ";play 6 if " + one, 6);
+                worth("play 5 if not " + one + ";play 6 if not " + other, 6);
+                worth("play 5 if " + one + " and " + other + ";play 6 if " + other + " or " + one, 6);
+                worth("play 5 if not [" + other + " or " + one + "];play 6 if not [" + one + " and " + other + "]", 6);
+                worth("play 5 if " + other + " and " + other + " or " + other + ";play 6 if " + one + " or " + other
+                    + " and " + other, 6);
+                worth("play 5 if [" + one + " or " + one + "] and " + other + ";play 6 if not " + other + " and " + one, 6);
+                worth("play 5 if not " + one + " or " + other + ";play 6 if not not " + one, 6);
+            }
+        }
     }
 
     /** / is towards 0, % its rest, both 0 by 0. */

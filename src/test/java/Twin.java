@@ -6,6 +6,8 @@ final class Twin {
     static final String THREE = "party 10;chair 0;chair 5;guest 2 1 5;guest 4 0 2;guest 9 3 9";
     static final String SEVEN = "party 24;chair 0;chair 4;chair 8;chair 12;chair 16;chair 20;guest 0 1 9;guest 4 2 8"
         + ";guest 8 3 7;guest 12 4 6;guest 16 5 5;guest 20 0 4;guest 2 1 1";
+    private static final String NEXT_RULE = "play 1 if [not 1<2] or [[1>2]];play places/3";
+    private static final String NEXT_PARTY = "party 5;chair 4;guest 3 2 1";
     /** What is no number of anything; 32 and 64 would be 0 again as a number of places to shift by. */
     static final int[] NO_NUMBER = {32, 33, 64, 256, Integer.MAX_VALUE, -2, -32, Integer.MIN_VALUE};
 
@@ -98,15 +100,30 @@ final class Twin {
         refusedOf(name, maker, call, due, NO_NUMBER);
     }
 
-    /** A text with a fault leaves all as it was but the tape, which is empty then. */
+    /** A text with a fault leaves all as it was but the tape, which is empty then; a text behind it is read as ever. */
     static void refusedText(String text, Call call, int due) {
         MusicChairs x = midway();
         Due.tell(x, text);
         Due.is("'" + text + "'", call.on(x), due);
         Due.is("'" + text + "': the tape is empty then", x.count(14), 0);
         MusicChairs y = midway();
-        y.end(0);
+        Due.tell(x, NEXT_RULE);
+        Due.tell(y, NEXT_RULE);
         alike("'" + text + "'", x, y);
+    }
+
+    /** What is asked is answered so on a new object, and on one of which all else was asked ahead of it. */
+    static void askedInAnyOrder(Maker maker, Call... calls) {
+        int[] due = new int[calls.length];
+        for (int k = 0; k < calls.length; k++) {
+            due[k] = calls[k].on(maker.make());
+        }
+        MusicChairs x = maker.make();
+        for (int k = 0; k < 2 * calls.length; k++) {
+            int which = k < calls.length ? k : 2 * calls.length - 1 - k;
+            Due.is("ask " + which + " behind others", calls[which].on(x), due[which]);
+        }
+        alike("all that is asked", x, maker.make());
     }
 
     static void alike(String name, MusicChairs x, MusicChairs y) {
@@ -128,9 +145,11 @@ final class Twin {
         addRules(all, x);
         addUndone(all, x);
         addImages(all, x);
-        // last, for it takes the place of all: what the tape says
+        // last, for it takes the place of all: what the tape says, and what is told then
         add(all, "party", x.party());
         add(all, "places", x.count(0));
+        add(all, "another party", Due.party(x, NEXT_PARTY));
+        addCounts(all, x);
         return all;
     }
 
@@ -188,7 +207,11 @@ final class Twin {
 
     private static void addUndone(List<String> all, MusicChairs x) {
         for (int k = 0; k < 21; k++) {
-            add(all, "undo", x.undo());
+            int left = x.undo();
+            add(all, "undo", left);
+            if (left < 0) {
+                break;
+            }
             for (int what = 5; what <= 7; what++) {
                 add(all, "count(" + what + ") then", x.count(what));
             }
