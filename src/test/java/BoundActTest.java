@@ -63,6 +63,11 @@ public final class BoundActTest {
             Due.is("chair(" + k / 2 + ", " + k % 2 + ")", x.chair(k / 2, k % 2), due[k]);
         }
         Due.is("the last of six", Twin.full().chair(5, 0), 20);
+        MusicChairs full = Twin.full();
+        int[] there = {0, 1, 1, 0, 1, 1};
+        for (int c = 0; c < 6; c++) {
+            Due.is("chair(" + c + ", 1)", full.chair(c, 1), there[c]);
+        }
     }
 
     /** Promise 8: NONE without these. */
@@ -280,6 +285,17 @@ public final class BoundActTest {
         guest(x, 0, 0, 0, 1, 0, 1, 1);
         guest(x, 1, 11, 0, 1, 0, 0, 0);
         guest(x, 2, 12, 0, 9, 1, 1, 1);
+        // both are kept apart by undo and by images
+        x.image(0);
+        x.play(1);
+        guest(x, 0, 0, 0, 1, 0, 2, 1);
+        x.undo();
+        guest(x, 0, 0, 0, 1, 0, 1, 1);
+        x.swap(0, 2);
+        x.back(0);
+        guest(x, 0, 0, 0, 1, 0, 1, 1);
+        guest(x, 2, 12, 0, 9, 1, 1, 1);
+        Due.is("time of one who is not tired", x.time(0, 1), 120);
     }
 
     /** 30 at most. */

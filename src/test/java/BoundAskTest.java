@@ -18,6 +18,7 @@ public final class BoundAskTest {
         withinsRefused();
         kinds();
         kindOfSeveral();
+        chairsThatAreAway();
         kindsRefused();
         longests();
         meets();
@@ -32,6 +33,8 @@ public final class BoundAskTest {
         rests();
         noRests();
         restsRefused();
+        byTheRuleInForce();
+        fromNowOn();
         againAndAgain();
         Due.end("BoundAskTest");
     }
@@ -298,6 +301,64 @@ public final class BoundAskTest {
             int w = what;
             asked("kind(" + what + ")", turned, x -> x.kind(w), back[what + 1]);
         }
+        Twin.Maker near = () -> Due.at("party 9;chair 1;chair 8;chair 0;guest 0 0 1;guest 4 0 1");
+        int[] ends = {30, 2, 0};
+        for (int what = -1; what < 2; what++) {
+            int w = what;
+            asked("kind(" + what + ")", near, x -> x.kind(w), ends[what + 1]);
+        }
+    }
+
+    /** A CHAIR that is not THERE seats nobody, though one stands at its PLACE; nor does one who is OUT take a CHAIR. */
+    private static void chairsThatAreAway() {
+        Twin.Maker away = () -> {
+            MusicChairs x = Due.at("party 24;chair 0;chair 12;chair 6;guest 0 0 1;guest 12 0 1");
+            x.play(1);
+            return x;
+        };
+        Due.is("chairs 0 and 2 are there", away.make().count(7), 5);
+        int[] due = {60, 0, 2};
+        for (int what = -1; what < 2; what++) {
+            int w = what;
+            asked("kind(" + what + ")", away, x -> x.kind(w), due[what + 1]);
+        }
+        asked("longest", away, MusicChairs::longest, 60);
+        asked("within 59", away, x -> x.within(59), 1);
+        asked("within 60", away, x -> x.within(60), 2);
+        // 2 is out at the place of chair 1, 3 at the place of chair 2; 0 is there too, 1 is tired at 0
+        Twin.Maker out = () -> {
+            MusicChairs x = Due.at("party 24;chair 0;chair 12;chair 6" + ";guest 6 0 1".repeat(4));
+            x.play(1);
+            x.play(1);
+            x.bring(1);
+            return x;
+        };
+        Due.is("0 and 1 are in", out.make().count(6), 3);
+        Due.is("chairs 1 and 2 are there", out.make().count(7), 6);
+        int[] less = {126, 1, 2, -1, -1};
+        for (int what = -1; what < 4; what++) {
+            int w = what;
+            asked("kind(" + what + ")", out, x -> x.kind(w), less[what + 1]);
+        }
+        asked("longest", out, MusicChairs::longest, 66);
+        asked("within 0", out, x -> x.within(0), 1);
+        asked("within 65", out, x -> x.within(65), 1);
+        asked("within 66", out, x -> x.within(66), 2);
+        // 0 is out at the place of chair 0, 1 is in on chair 1
+        Twin.Maker first = () -> {
+            MusicChairs x = Due.at("party 24;chair 0;chair 12;guest 1 0 1;guest 12 0 1");
+            x.play(1);
+            x.play(1);
+            x.bring(0);
+            x.bring(1);
+            return x;
+        };
+        Due.is("1 is in", first.make().count(6), 2);
+        Due.is("0 is on chair 0", first.make().time(0, 0), 0);
+        asked("0 is out", first, x -> x.kind(0), -1);
+        asked("1", first, x -> x.kind(1), 1);
+        asked("how much", first, x -> x.kind(-1), 0);
+        asked("within", first, x -> x.within(999), 1);
     }
 
     private static void kindsRefused() {
@@ -387,6 +448,15 @@ public final class BoundAskTest {
         Twin.Maker some = () -> Due.at("party 7;chair 4;chair 1;chair 3;guest 3 1 2;guest 5 1 1;guest 1 0 2");
         asked("1 and 2 are as good", some, x -> x.away(0, 2, 0), 1);
         asked("twice", some, x -> x.away(0, 2, 1), 2);
+        // chair 1 is away; of 0, 2 and 3 the last one alone brings 1 to sit twice
+        Twin.Maker last = () -> {
+            MusicChairs x = Due.at("party 6;chair 4;chair 3;chair 2;chair 0;guest 1 1 1;guest 4 1 1;guest 1 1 1");
+            x.play(1);
+            return x;
+        };
+        Due.is("chair 1 is away", last.make().count(7), 13);
+        asked("the last one", last, x -> x.away(1, 2, 0), 3);
+        asked("twice", last, x -> x.away(1, 2, 1), 2);
         Twin.Maker two = () -> Due.by("party 5;chair 2;chair 0;chair 4;guest 0 1 3;guest 2 0 1;guest 3 1 1", "play 8");
         asked("which", two, x -> x.away(1, 2, 0), 2);
         asked("how often", two, x -> x.away(1, 2, 1), 2);
@@ -485,6 +555,51 @@ public final class BoundAskTest {
             Twin.refused("no party", MusicChairs::new, x -> x.rests(0, 1, 1, w), -1);
         }
         Twin.refusedAll("what of rests", Twin::midway, (x, what) -> x.rests(0, 2, 1, what), -1, 3, -1);
+    }
+
+    /** ROUNDS go on by the RULE IN FORCE: by four beats 1 is on the chair, without a rule 0 is nearer. */
+    private static void byTheRuleInForce() {
+        String two = "party 6;chair 0;guest 1 0 1;guest 2 1 1";
+        Twin.Maker none = () -> Due.at(two);
+        Twin.Maker four = () -> Due.by(two, "play 4");
+        answers("in ahead", none, four, x -> x.ahead(0, 1, 1), 1, 2);
+        answers("place ahead", none, four, x -> x.ahead(1, 1, 0), 4, 0);
+        answers("winner", none, four, x -> x.winner(0), 0, 1);
+        answers("gone of 0", none, four, x -> x.gone(0), -2, 0);
+        answers("gone of 1", none, four, x -> x.gone(1), 0, -2);
+        answers("begin of 0", none, four, x -> x.begin(0, 1, 0), 1, 0);
+        answers("begin of 1", none, four, x -> x.begin(1, 1, 0), 4, 2);
+        answers("rests", none, four, x -> x.rests(0, 1, 1, 2), 2, 1);
+        String three = "party 6;chair 4;chair 5;chair 1;guest 5 1 1;guest 2 1 1;guest 5 0 1";
+        answers("away", () -> Due.at(three), () -> Due.by(three, "play 1"), x -> x.away(2, 2, 0), 2, 0);
+        // told beats are in place of what the rule says
+        answers("safe", none, four, x -> x.safe(1, 1), 4, 4);
+        answers("row", none, four, x -> x.row(1, 1, 1), 4, 4);
+    }
+
+    private static void answers(String name, Twin.Maker none, Twin.Maker ruled, Twin.Call call, int due, int dueByRule) {
+        asked(name + " without a rule", none, call, due);
+        asked(name + " by a rule", ruled, call, dueByRule);
+    }
+
+    /** Not as the text told it: by the step that is set 1 comes upon the chair behind eight beats. */
+    private static void fromNowOn() {
+        Twin.Maker set = () -> {
+            MusicChairs x = Due.at("party 6;chair 0;guest 1 0 1;guest 2 1 1");
+            x.pace(1, 2);
+            return x;
+        };
+        asked("ahead", set, x -> x.ahead(0, 1, 1), 2);
+        asked("winner", set, x -> x.winner(0), 1);
+        asked("gone", set, x -> x.gone(0), 0);
+        asked("gone", set, x -> x.gone(1), -2);
+        asked("safe", set, x -> x.safe(1, 1), 2);
+        asked("row", set, x -> x.row(1, 1, 1), 2);
+        asked("away", set, x -> x.away(1, 1, 1), 1);
+        asked("begin", set, x -> x.begin(1, 1, 0), 2);
+        asked("meet", set, x -> x.meet(0, 1), -2);
+        asked("tour", set, MusicChairs::tour, 3);
+        asked("tunes of one beat", set, x -> x.tunes(1, 1, 0), 1);
     }
 
     /** By what is asked nothing changes: not even what is asked next. */

@@ -13,6 +13,8 @@ public final class BoundNoteTest {
         stepsRefused();
         quicks();
         quicksRefused();
+        fromTheBegin();
+        byTheRuleInForce();
         pence();
         penceOfAll();
         penceRefused();
@@ -36,6 +38,7 @@ public final class BoundNoteTest {
         imagesOfAllActs();
         imagesStay();
         imagesOfNotes();
+        imagesOfTexts();
         imageOfNoParty();
         imagesRefused();
         Due.end("BoundNoteTest");
@@ -95,6 +98,46 @@ public final class BoundNoteTest {
         Twin.refusedOf("quicks", Twin::full, MusicChairs::quicks, -1, 7, -1);
         Twin.refusedOf("quicks", MusicChairs::new, MusicChairs::quicks, -1, 0, -1);
         Twin.refused("no guests", () -> Due.at("party 4;chair 0"), x -> x.quicks(0), -1);
+    }
+
+    /** From the begin on, all as the text told it: acts don't matter. */
+    private static void fromTheBegin() {
+        Twin.Maker acted = () -> {
+            MusicChairs x = Due.at(TWO);
+            Due.rule(x, "play 4");
+            x.note(0, 1, 1);
+            x.pace(0, 4);
+            x.pace(1, 5);
+            x.swap(0, 1);
+            x.round();
+            x.bring(0);
+            return x;
+        };
+        asked("steps", acted, x -> x.steps(1), 4 + 32);
+        asked("quicks", acted, x -> x.quicks(1), 1022 - 2 - 4);
+        asked("ruled", acted, x -> x.ruled(0), 1);
+        asked("ruled", acted, x -> x.ruled(1), 0);
+        asked("look", acted, x -> x.look(0, 0), 0);
+        asked("look", acted, x -> x.look(0, 1), 1);
+    }
+
+    /** STEPS and QUICKS by the RULE IN FORCE; RULED and LOOK by each, whatever is. */
+    private static void byTheRuleInForce() {
+        Twin.Maker none = () -> {
+            MusicChairs x = noted(TWO, "play 4", 0, 1, 1).make();
+            x.force(-1);
+            return x;
+        };
+        Twin.Maker four = noted(TWO, "play 4", 0, 1, 1);
+        asked("steps without a rule", none, x -> x.steps(1), 4 + 32);
+        asked("steps by a rule", four, x -> x.steps(1), 2 + 16);
+        asked("quicks without a rule", none, x -> x.quicks(1), 1022 - 2 - 4);
+        asked("quicks by a rule", four, x -> x.quicks(1), 1022);
+        for (Twin.Maker maker : new Twin.Maker[] {none, four}) {
+            asked("ruled", maker, x -> x.ruled(0), 1);
+            asked("ruled", maker, x -> x.ruled(1), 0);
+            asked("look", maker, x -> x.look(0, 1), 1);
+        }
     }
 
     /** Promise 31, PENCE (0 to 9999); nothing, if nobody has SAT. 0 and 2 sat once. */
@@ -523,6 +566,24 @@ public final class BoundNoteTest {
                 Due.is("as noted", x.ruled(0), due);
             }
         }
+    }
+
+    /** The party as the text told it is in an image, too, beside what has become of it. */
+    private static void imagesOfTexts() {
+        MusicChairs x = Due.at(TWO);
+        x.note(0, 1, 1);
+        x.pace(1, 5);
+        x.round();
+        x.image(0);
+        Due.party(x, SIX_ROUNDS);
+        x.back(0);
+        Due.is("acts of the image", x.guest(1, 1), 5);
+        Due.is("steps", x.steps(1), 4 + 32);
+        Due.is("quicks", x.quicks(1), 1022 - 2 - 4);
+        Due.is("ruled", x.ruled(0), 0);
+        x.note(-1, 0, 0);
+        Due.is("guest 0 is in without a rule", x.note(0, 0, 1), 1);
+        Due.is("ruled", x.ruled(0), 1);
     }
 
     private static void imageOfNoParty() {

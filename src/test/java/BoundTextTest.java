@@ -1,6 +1,12 @@
+import java.util.ArrayList;
+import java.util.List;
+
 /** The bounds that the document names for texts: promises 1 to 6, and what Terms says of parties, rules and faults. */
 public final class BoundTextTest {
     private static final String SIX_CHAIRS = ";chair 1;chair 2;chair 3;chair 4;chair 5;chair 6";
+    private static final String VALUES = "5 places round guests chairs last beats fast slow near tired";
+    private static final String SUMS = "+ - * / %";
+    private static final String SIGNS = "< <= = >= >";
     private static final int[] NO_BLANKS = {0, 9, 10, 13, 31, 33, 127, 128, 160, 255};
 
     public static void main(String[] args) {
@@ -21,6 +27,7 @@ public final class BoundTextTest {
         begins();
         digits();
         marksOfAParty();
+        whatCanStandInAParty();
         blanks();
         theEndOfAParty();
         firstFault();
@@ -33,6 +40,7 @@ public final class BoundTextTest {
         valuesAndFacts();
         words();
         marksOfARule();
+        whatCanStandInARule();
         theEndOfARule();
         firstFaultOfARule();
         leastFaultOfARule();
@@ -41,6 +49,12 @@ public final class BoundTextTest {
         byZero();
         sixtyFourBits();
         lastOfNobody();
+        placesAndRounds();
+        guestsAndChairs();
+        beatsOfTheLast();
+        fastAndSlow();
+        near();
+        tired();
         forces();
         Due.end("BoundTextTest");
     }
@@ -330,6 +344,63 @@ public final class BoundTextTest {
         partyFault("party 9;guest 1 1-1", 17, 0);
     }
 
+    /** Every word, mark and byte behind this: those that can't stand there are a fault there, of sort 0. */
+    private static void standBehind(String head, String right, Twin.Call call) {
+        List<String> all = new ArrayList<>(List.of((VALUES + " " + SUMS + " " + SIGNS
+            + " play if or and not party chair guest ; [ ] x partys playing").split(" ")));
+        for (int one = 0; one < 256; one++) {
+            boolean isSmall = one >= 'a' && one <= 'z' || one >= '0' && one <= '9';
+            if (one != ' ' && !isSmall && "+-*/%<=>;[]".indexOf(one) < 0) {
+                all.add("" + (char) one);
+            }
+        }
+        List<String> can = List.of(right.split(" "));
+        for (String one : all) {
+            String text = head + one;
+            MusicChairs x = new MusicChairs();
+            Due.tell(x, text);
+            int got = call.on(x);
+            if (can.contains(one)) {
+                Due.holds("'" + text + "' can stand: " + got, got >= 0 || got == Due.fault(text.length(), 0));
+            } else {
+                Due.is("'" + text + "'", got, Due.fault(head.length(), 0));
+            }
+        }
+    }
+
+    /** Clauses that are too many or ahead of the party are of another sort: they stand in firstAndOnce. */
+    private static void whatCanStandInAParty() {
+        String[][] rows = {{"party ", "5"}, {"party 9 ", ";"}, {"party 9;chair ", "5"}, {"party 9;chair 1 ", ";"},
+            {"party 9;guest ", "5"}, {"party 9;guest 1 ", "5"}, {"party 9;guest 1 1 ", "5"}, {"party 9;guest 1 1 1 ", ";"},
+            {"party 9;chair 1;guest 1 1 1 ", ";"}};
+        for (String[] row : rows) {
+            standBehind(row[0], row[1], MusicChairs::party);
+        }
+        for (String word : (VALUES + " play if or and not " + SUMS + " " + SIGNS + " ; [ ] x").split(" ")) {
+            partyFault(word, 0, 0);
+            partyFault("party 9; " + word, 9, 0);
+        }
+    }
+
+    private static void whatCanStandInARule() {
+        String test = VALUES + " not [";
+        String joined = SUMS + " and or ";
+        String[][] rows = {{"", "play"}, {"play 1; ", "play"}, {"play 1 if 1<2; ", "play"}, {"play ", VALUES},
+            {"play 1+ ", VALUES}, {"play 1*round% ", VALUES}, {"play 1 ", SUMS + " if ;"}, {"play 1+2 ", SUMS + " if ;"},
+            {"play 1 if ", test}, {"play 1 if not ", test}, {"play 1 if [ ", test}, {"play 1 if not [ ", test},
+            {"play 1 if [not ", test}, {"play 1 if 1<2 and ", test}, {"play 1 if 1<2 or ", test}, {"play 1 if [1<2 or ", test},
+            {"play 1 if 1 ", SUMS + " " + SIGNS}, {"play 1 if [1 ", SUMS + " " + SIGNS},
+            {"play 1 if not 1+1 ", SUMS + " " + SIGNS}, {"play 1 if 1<2 and 1 ", SUMS + " " + SIGNS},
+            {"play 1 if 1< ", VALUES}, {"play 1 if 1>= ", VALUES}, {"play 1 if 1+ ", VALUES}, {"play 1 if 1<2- ", VALUES},
+            {"play 1 if 1<2 ", joined + ";"}, {"play 1 if not 1<2 ", joined + ";"}, {"play 1 if [1<2] and 1<2 ", joined + ";"},
+            {"play 1 if [1<2 ", joined + "]"}, {"play 1 if not [not 1<2 ", joined + "]"}, {"play 1 if [1<2 and 1<2 ", joined + "]"},
+            {"play 1 if [1<2] ", "and or ;"}, {"play 1 if not [1<2] ", "and or ;"}, {"play 1 if [[1<2]] ", "and or ;"},
+            {"play 1 if [[1<2] ", "and or ]"}, {"play 1 if [1<2 or [1<2] ", "and or ]"}};
+        for (String[] row : rows) {
+            standBehind(row[0], row[1], MusicChairs::rule);
+        }
+    }
+
     /** Blanks (32) stand between as one likes; no other byte does. */
     private static void blanks() {
         party("party9;chair1;guest1 1 1", 1);
@@ -608,7 +679,7 @@ public final class BoundTextTest {
         worth("play 5 if 3=2;play 6 if 3=3", 6);
         worth("play 5 if 3<=2;play 6 if 2>=3;play 7 if 2<=3", 7);
         String[] right = {"2<3", "2<=3", "3<=3", "3=3", "3>=3", "3>=2", "3>2"};
-        String[] wrong = {"3<2", "3<3", "3<=2", "3=2", "2>=3", "3>3", "2>3"};
+        String[] wrong = {"3<2", "3<3", "3<=2", "3=2", "2=3", "2>=3", "3>3", "2>3"};
         for (String one : right) {
             for (String other : wrong) {
                 worth("play 5 if " + other + ";play 6 if " + one, 6);
@@ -668,6 +739,130 @@ public final class BoundTextTest {
         Due.is("nobody was", x.round(), 19);
         Due.is("0 is out", x.count(9), 0);
         Due.is("0 was", x.round(), 20);
+    }
+
+    /** What a new rule says now; the round that is played to see it is undone. */
+    private static int says(MusicChairs x, String rule, int due) {
+        int number = x.count(3);
+        Due.is(rule, Due.rule(x, rule), number);
+        saysBy(x, number, due);
+        return number;
+    }
+
+    private static void saysBy(MusicChairs x, int number, int due) {
+        int was = x.force(number);
+        Due.is("beats by rule " + number, x.round(), due);
+        x.undo();
+        x.force(was);
+    }
+
+    /** places: 4 to 24; round: 0 at first, counted on from what was played. */
+    private static void placesAndRounds() {
+        for (int n : new int[] {4, 5, 23, 24}) {
+            says(Due.at("party " + n + ";chair 0;guest 1 0 1;guest 2 0 1"), "play places", n);
+        }
+        MusicChairs x = Due.by("party 24;chair 0;chair 1;chair 2;chair 3;chair 4;chair 5;guest 5 0 1;guest 6 0 1",
+            "play 20+round");
+        for (int k = 0; k < 6; k++) {
+            Due.is("round " + k, x.round(), 20 + k);
+        }
+        Due.is("over", x.round(), 0);
+        // rounds that are asked count on: by one beat, then six, guest 1 comes from 1 to 3, runs to 0, comes to 12
+        MusicChairs y = Due.by("party 24;chair 12;chair 0;guest 12 0 1;guest 1 0 1", "play 1+round*5");
+        y.pace(1, 2);
+        Due.is("round 1 is asked", y.ahead(1, 2, 0), 12);
+        Due.is("round 0 was played", y.round(), 1);
+        Due.is("round 1 is played", y.round(), 6);
+        Due.is("as it was asked", y.guest(1, 0), 12);
+    }
+
+    /** guests: those who are IN, 2 to 7; chairs: those that are THERE, 1 to 6. */
+    private static void guestsAndChairs() {
+        says(Due.at("party 9;chair 1;guest 0 0 1;guest 2 0 1"), "play 10*guests+chairs", 21);
+        says(Due.at("party 9" + SIX_CHAIRS + ";guest 0 0 1".repeat(5)), "play 10*guests+chairs", 56);
+        says(Due.at("party 9;chair 1" + ";guest 0 0 1".repeat(7)), "play 7*guests+chairs", 50);
+        MusicChairs x = Twin.midway();
+        says(x, "play 10*guests+chairs", 21);
+        x.bring(1);
+        says(x, "play 10*guests+chairs", 22);
+        says(Due.at(Twin.SEVEN), "play 7*guests+chairs", 55);
+    }
+
+    /** beats: of the last ROUND, 0 at first, 1 to 60. */
+    private static void beatsOfTheLast() {
+        says(Due.at(Twin.THREE), "play 20+beats", 20);
+        for (int beats : new int[] {1, 2, 29, 39, 40}) {
+            MusicChairs x = Due.at("party 24;chair 0;chair 12;guest 0 0 1;guest 12 0 1");
+            x.play(beats);
+            says(x, "play 20+beats", 20 + beats);
+        }
+        MusicChairs x = Due.at("party 24;chair 0;chair 12;guest 0 0 1;guest 12 0 1");
+        x.play(60);
+        says(x, "play beats-20", 40);
+        x.undo();
+        says(x, "play 20+beats", 20);
+    }
+
+    /** fast, slow: the greatest, the least STEP of those IN, 0 to 5. */
+    private static void fastAndSlow() {
+        String[] rows = {"0 0", "5 5", "0 5", "5 0", "1 4", "4 1", "2 3"};
+        for (String row : rows) {
+            int one = row.charAt(0) - '0';
+            int other = row.charAt(2) - '0';
+            MusicChairs x = Due.at("party 9;chair 1;guest 0 " + one + " 1;guest 2 " + other + " 1");
+            says(x, "play 6*fast+slow+1", 6 * Math.max(one, other) + Math.min(one, other) + 1);
+        }
+        says(Due.at(Twin.SEVEN), "play 6*fast+slow+1", 31);
+        // 0 has 1, 2 has 3; 1, who is out, does not matter
+        MusicChairs x = Twin.midway();
+        int rule = says(x, "play 6*fast+slow+1", 20);
+        x.pace(1, 5);
+        saysBy(x, rule, 20);
+        x.pace(1, 0);
+        saysBy(x, rule, 20);
+        x.pace(2, 5);
+        saysBy(x, rule, 32);
+        x.pace(0, 0);
+        saysBy(x, rule, 31);
+    }
+
+    /** near: how many IN are at the PLACE of a CHAIR that is THERE; the first and the last PLACE among them. */
+    private static void near() {
+        says(Due.at("party 9;chair 1;guest 0 0 1;guest 2 0 1"), "play 20+near", 20);
+        says(Due.at("party 24;chair 0;guest 0 0 1;guest 23 0 1"), "play 20+near", 21);
+        says(Due.at("party 24;chair 23;guest 0 0 1;guest 23 0 1"), "play 20+near", 21);
+        says(Due.at("party 24;chair 23;chair 0;guest 0 0 1;guest 23 0 1"), "play 20+near", 22);
+        says(Due.at("party 24;chair 5" + ";guest 5 0 1".repeat(7)), "play 20+near", 27);
+        says(Due.at(Twin.SEVEN), "play 20+near", 26);
+        // 1 sat last, so that chair 1 is away under them; 2 is out at the place of chair 0
+        MusicChairs x = Due.at("party 24;chair 0;chair 12;guest 0 0 1;guest 12 0 1;guest 0 0 1");
+        says(x, "play 20+near", 23);
+        x.play(1);
+        Due.is("0 and 1 are in", x.count(6), 3);
+        Due.is("chair 0 is there", x.count(7), 1);
+        says(x, "play 20+near", 21);
+        x.bring(1);
+        says(x, "play 20+near", 22);
+    }
+
+    /** tired: how TIRED those IN are, together. */
+    private static void tired() {
+        says(Due.at(Twin.THREE), "play 20+tired", 20);
+        MusicChairs x = Twin.midway();
+        says(x, "play 20+tired", 22);
+        // 2 is tired and out behind the second round; 0 and 1 are tired twice
+        MusicChairs z = Due.at("party 24;chair 0;chair 8;chair 16;guest 0 1 1;guest 8 2 1;guest 16 3 1");
+        z.play(1);
+        says(z, "play 20+tired", 23);
+        z.play(1);
+        Due.is("0 and 1 are in", z.count(6), 3);
+        Due.is("2 was tired", z.guest(2, 3), 1);
+        says(z, "play 20+tired", 24);
+        // both sat, and neither had to run
+        MusicChairs still = Due.at("party 24;chair 0;chair 12;guest 0 0 1;guest 12 0 1");
+        still.play(1);
+        Due.is("0 sat", still.guest(0, 4), 1);
+        says(still, "play 20+tired", 20);
     }
 
     /** Promise 6: nothing happens, if there is none such. */
